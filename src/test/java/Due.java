@@ -93,4 +93,60 @@ final class Due {
         }
         return out.toString();
     }
+
+    /** 300 characters: 14 gates of 21, with the names 10 to 23, and a stacker of 6. */
+    static String fullText() {
+        StringBuilder out = new StringBuilder();
+        for (int i = 10; i < 24; i++) {
+            out.append(String.format("G%04d=%04d>%04d,%04d;", i, i, 29, i + 1));
+        }
+        return out.append("S29=1;").toString();
+    }
+
+    /** A part of a kind with a name: its other numbers as small as they may be, its ways to 0. */
+    static String part(int kind, String name) {
+        String[] behind = {"=1>0;", "=1,1>0;", "=0>0;", "=0>0,0;", "=1;"};
+        return "FBRGS".charAt(kind) + name + behind[kind];
+    }
+
+    /** As many parts of one kind with the names 0, 1 and so on. */
+    static String parts(int kind, int count) {
+        StringBuilder out = new StringBuilder();
+        for (int i = 0; i < count; i++) {
+            out.append(part(kind, String.valueOf(i)));
+        }
+        return out.toString();
+    }
+
+    /**
+     * All that can be asked without a change, of a machine with at most two parts whose names
+     * are among 0, 1, 2, and at most 17 characters printed: 105 calls.
+     */
+    static String state(MachineText x) {
+        StringBuilder out = new StringBuilder();
+        for (int i = -1; i <= 17; i++) {
+            out.append(x.at(i)).append(' ');
+        }
+        for (int i = 0; i <= 2; i++) {
+            for (int what = 0; what <= 5; what++) {
+                out.append(x.part(i, what)).append(' ');
+            }
+        }
+        out.append("check ").append(x.check()).append(' ');
+        for (int i = 0; i <= 8; i++) {
+            for (int what = 0; what <= 2; what++) {
+                out.append(x.fault(i, what)).append(' ');
+            }
+        }
+        for (int name = 0; name <= 3; name++) {
+            out.append(x.reach(name)).append(' ').append(x.gap(name)).append(' ');
+            for (int to = 0; to <= 3; to++) {
+                out.append(x.time(name, to)).append(' ');
+            }
+            for (long gap = -1; gap <= 2; gap++) {
+                out.append(x.suffices(name, gap)).append(' ');
+            }
+        }
+        return out.toString();
+    }
 }

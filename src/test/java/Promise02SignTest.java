@@ -35,7 +35,7 @@ public final class Promise02SignTest {
 
     private static void roomForThreeHundred(Due due) {
         MachineText x = new MachineText();
-        String text = fullText();
+        String text = Due.fullText();
         due.that("length", text.length(), 300);
         due.that("300 characters", Due.signAll(x, text), true);
         due.that("the 301st", x.sign(';'), false);
@@ -53,14 +53,5 @@ public final class Promise02SignTest {
         due.that("read()", x.read(), -1);
         due.that("room again", Due.signAll(x, "S0=1;"), true);
         due.that("read()", x.read(), 1);
-    }
-
-    /** 14 gates of 21 characters and a stacker of 6. */
-    static String fullText() {
-        StringBuilder out = new StringBuilder();
-        for (int i = 0; i < 14; i++) {
-            out.append(String.format("G%04d=%04d>%04d,%04d;", i, i, 29, i + 1));
-        }
-        return out.append("S29=1;").toString();
     }
 }

@@ -31,6 +31,8 @@ public final class Promise04PartTest {
         due.that("part(0, 6) without a machine", new MachineText().part(0, 6), MachineText.OUTSIDE);
         waysToNowhereHaveNames(due);
         nothingOfAnOlderMachine(due);
+        firstAndLastPart(due);
+        leastAndLargestNumbers(due);
         due.end();
     }
 
@@ -38,6 +40,36 @@ public final class Promise04PartTest {
         MachineText x = Due.machine("G0=5>11,12;");
         due.that("part(0, 4)", x.part(0, 4), 11);
         due.that("part(0, 5)", x.part(0, 5), 12);
+    }
+
+    /** "Part i (0 the first)", "NONE when there is none such": of one part, and of as many as can be. */
+    private static void firstAndLastPart(Due due) {
+        for (int count : new int[] {1, 2, 23, 24}) {
+            MachineText x = Due.machine(Due.stackers(count));
+            for (int what = 0; what <= 5; what++) {
+                due.that("part(-1, " + what + ") of " + count, x.part(-1, what), NO);
+                due.that("part(" + count + ", " + what + ")", x.part(count, what), NO);
+            }
+            due.that("part(0, 1) of " + count, x.part(0, 1), 0);
+            due.that("the last one's kind of " + count, x.part(count - 1, 0), 4);
+            due.that("the last one's name of " + count, x.part(count - 1, 1), count - 1);
+            due.that("the last one's height of " + count, x.part(count - 1, 2), 1);
+        }
+    }
+
+    /** Each kind with the least numbers it may have, and with the largest. */
+    private static void leastAndLargestNumbers(Due due) {
+        String[] texts = {"F0=1>0;", "F29=9999>29;", "B0=1,1>0;", "B29=9999,9999>29;", "R0=0>0;", "R29=9999>29;",
+            "G0=0>0,0;", "G29=9999>29,29;", "S0=1;", "S29=999;"};
+        int[][] want = {{0, 0, 1, NO, 0, NO}, {0, 29, 9999, NO, 29, NO}, {1, 0, 1, 1, 0, NO},
+            {1, 29, 9999, 9999, 29, NO}, {2, 0, 0, NO, 0, NO}, {2, 29, 9999, NO, 29, NO}, {3, 0, 0, NO, 0, 0},
+            {3, 29, 9999, NO, 29, 29}, {4, 0, 1, NO, NO, NO}, {4, 29, 999, NO, NO, NO}};
+        for (int i = 0; i < texts.length; i++) {
+            MachineText x = Due.machine(texts[i]);
+            for (int what = 0; what <= 5; what++) {
+                due.that("part(0, " + what + ") of " + texts[i], x.part(0, what), want[i][what]);
+            }
+        }
     }
 
     private static void nothingOfAnOlderMachine(Due due) {

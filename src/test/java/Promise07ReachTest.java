@@ -18,7 +18,18 @@ public final class Promise07ReachTest {
         }
         due.that("reach(0) without a machine", new MachineText().reach(0), MachineText.UNKNOWN);
         longestChain(due);
+        eachBin(due);
         due.end();
+    }
+
+    /** Each name of a stacker, where a feeder goes there and where it goes to the one beside it. */
+    private static void eachBin(Due due) {
+        for (int bin = 1; bin <= 29; bin++) {
+            due.that("reach(" + bin + ")", Due.machine("F0=1>" + bin + ";S" + bin + "=1;").reach(bin), 1);
+            due.that("reach(" + bin + ") beside", Due.machine("F0=1>" + (bin - 1) + ";S" + bin + "=1;").reach(bin), 0);
+        }
+        due.that("reach(0)", Due.machine("F29=1>0;S0=1;").reach(0), 1);
+        due.that("reach(0) beside", Due.machine("F29=1>1;S0=1;").reach(0), 0);
     }
 
     /** 24 parts, written from the end to the feeder. */

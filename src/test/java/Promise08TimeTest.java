@@ -49,6 +49,11 @@ public final class Promise08TimeTest {
         due.that("time(1, 0)", x.time(1, 0), 6);
         due.that("time(2, 2)", x.time(2, 2), 0);
         due.that("time(2, 0)", x.time(2, 0), MachineText.NONE);
+        // 0 also where the part reaches itself, only later, and where it does not.
+        for (String part : new String[] {"F3=9>3;", "F3=9>4;", "B3=9,1>3;", "B3=9,1>4;", "R3=9>3;", "R3=9>4;",
+            "G3=9>3,3;", "G3=9>4,4;", "S3=9;"}) {
+            due.that("time(3, 3) of " + part, Due.machine(part).time(3, 3), 0);
+        }
     }
 
     private static void refusals(Due due) {
@@ -62,6 +67,7 @@ public final class Promise08TimeTest {
             due.that("time(" + wild + ", 0)", x.time(wild, 0), MachineText.UNKNOWN);
             due.that("time(" + wild + ", same)", x.time(wild, wild), MachineText.UNKNOWN);
         }
+        due.that("without a machine", new MachineText().time(0, 0), MachineText.UNKNOWN);
     }
 
     private static void longest(Due due) {

@@ -9,6 +9,7 @@ public final class Promise11PrintTest {
             "F0=1>29;B1=10,100>0;R2=0>0;G3=0>3,10;S4=909;");
         due.that("24 parts", Due.printed(Due.machine(Due.stackers(24))), Due.stackers(24));
         fullText(due);
+        digits(due);
         MachineText x = Due.machine("S0=1;");
         due.that("print()", x.print(), 5);
         due.that("print() again", x.print(), 5);
@@ -20,19 +21,39 @@ public final class Promise11PrintTest {
         due.end();
     }
 
+    /** "numbers without zeros before": where one digit more comes, with and without zeros. */
+    private static void digits(Due due) {
+        for (int number : new int[] {0, 1, 9, 10, 11, 99, 100, 101, 909, 990, 999, 1000, 1001, 9000, 9090, 9999}) {
+            String plain = "R0=" + number + ">0;";
+            MachineText x = Due.machine(plain);
+            due.that("print() of " + plain, x.print(), plain.length());
+            due.that("printed", Due.printed(x), plain);
+            due.that("zeros before", Due.printed(Due.machine(String.format("R0000=%04d>0000;", number))), plain);
+        }
+        for (int name = 0; name <= 29; name++) {
+            String plain = "G" + name + "=0>" + name + "," + (29 - name) + ";";
+            due.that("zeros before names", Due.printed(Due.machine(
+                String.format("G%04d=0>%03d,%02d;", name, name, 29 - name))), plain);
+        }
+    }
+
     private static void prints(Due due, String text) {
         due.that("printed", Due.printed(Due.machine(text)), text);
     }
 
-    /** 300 characters without zeros before, printed as they are. */
-    private static void fullText(Due due) {
+    /** 300 characters without zeros before. */
+    static String threeHundred() {
         StringBuilder text = new StringBuilder();
         for (int i = 10; i < 28; i++) {
             text.append("B").append(i).append("=1000,999>29;");
         }
-        text.append("B6=10,10>20;");
+        return text.append("B6=10,10>20;").toString();
+    }
+
+    private static void fullText(Due due) {
+        String text = threeHundred();
         due.that("length", text.length(), 300);
-        MachineText x = Due.machine(text.toString());
+        MachineText x = Due.machine(text);
         due.that("print()", x.print(), 300);
         for (int i = 100; i < 300; i++) {
             due.that("at(" + i + ")", x.at(i), text.charAt(i));

@@ -31,9 +31,8 @@ public final class MachineText {
     /** Of kind 1 two a part, of each of the five others one. */
     private static final int MOST_FAULTS = (MOST_WAYS + 5) * MOST_PARTS;
 
-    private final Text text;
-    private final Text printed;
     private final Parser parser;
+    private final Text printed;
     private final Paths paths;
     private final FaultList faults;
     /** Without a part as long as nothing was read: there is no machine then. */
@@ -42,9 +41,8 @@ public final class MachineText {
     private Machine spare;
 
     public MachineText() {
-        text = new Text();
+        parser = new Parser();
         printed = new Text();
-        parser = new Parser(text);
         paths = new Paths();
         faults = new FaultList();
         machine = new Machine();
@@ -52,12 +50,12 @@ public final class MachineText {
     }
 
     public boolean sign(int c) {
-        return c >= 32 && c <= 126 && text.append((char) c);
+        return c >= 32 && c <= 126 && parser.text.append((char) c);
     }
 
     public int read() {
         boolean good = parser.readParts(spare);
-        text.clear();
+        parser.text.clear();
         if (!good) {
             return -1 - parser.place;
         }
@@ -189,15 +187,15 @@ public final class MachineText {
     }
 
     /**
-     * Reads a text from left to right. Whatever finds a fault answers so and leaves the place
-     * at the fault.
+     * Holds the text that is signed and reads it from left to right. Whatever finds a fault
+     * answers so and leaves the place at the fault.
      */
     private static final class Parser {
         final Text text;
         int place;
 
-        Parser(Text text) {
-            this.text = text;
+        Parser() {
+            text = new Text();
             place = 0;
         }
 
